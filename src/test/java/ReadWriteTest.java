@@ -262,6 +262,10 @@ public final class ReadWriteTest {
         x.writeRun(3, 2, 52);
         DUE.is("P with its gap", x.peek(9, 0), p ^ 0x100 ^ 1 ^ 3);
         DUE.is("Q with its gap", x.peek(0, 0), q ^ 0x200 ^ 8 ^ 48);
+        int[] want = {50, 51, 52, 52, 53, 55, 56, 57};
+        for (int block = 0; block < 8; block++) {
+            DUE.is("read(" + block + ")", x.read(block), want[block]);
+        }
         DUE.is("faults()", x.faults(), 1);
     }
 
