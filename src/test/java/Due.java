@@ -22,6 +22,10 @@ final class Due {
         is(what, got ? 1L : 0L, want ? 1L : 0L);
     }
 
+    void is(String what, String got, String want) {
+        is(what + ": [" + got + "] for [" + want + "]", got.equals(want), true);
+    }
+
     void end() {
         if (asked == 0) {
             System.out.println(test + ": asked nothing");
