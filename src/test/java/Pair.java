@@ -83,12 +83,21 @@ final class Pair {
     }
 
     void lookAtTheWhole() {
-        due.is(name + "mode()", array.mode(), model.mode());
-        due.is(name + "logged()", array.logged(), model.logged());
-        due.is(name + "reads()", array.reads(), model.reads());
-        due.is(name + "writes()", array.writes(), model.writes());
-        due.is(name + "faults()", array.faults(), model.faults());
-        due.is(name + "spares()", array.spares(), model.spares());
+        for (int i = 0; i < 6; i++) {
+            lookAtOne(i);
+        }
+    }
+
+    /** One of the six calls that look at the whole array. */
+    void lookAtOne(int i) {
+        switch (i) {
+            case 0 -> due.is(name + "mode()", array.mode(), model.mode());
+            case 1 -> due.is(name + "logged()", array.logged(), model.logged());
+            case 2 -> due.is(name + "reads()", array.reads(), model.reads());
+            case 3 -> due.is(name + "writes()", array.writes(), model.writes());
+            case 4 -> due.is(name + "faults()", array.faults(), model.faults());
+            default -> due.is(name + "spares()", array.spares(), model.spares());
+        }
     }
 
     void lookAtTheDisks() {
